@@ -590,7 +590,8 @@ public final class FactLedger {
             int before = NONE;
             int after = NONE;
             for (int fact = 0; fact < count; fact++) {
-                if (closings[fact] == NONE && daysWithin(fact, slot, from, to) > 0) {
+                if (slots[fact] == slot && closings[fact] == NONE
+                        && daysWithin(fact, from, to) > 0) {
                     closings[fact] = tick;
                     closed++;
                     before = froms[fact] < from ? fact : before;
@@ -611,7 +612,8 @@ public final class FactLedger {
         /** Returns the fact of a day as of a tick, NONE if there is none. */
         int find(int slot, int day, int tick) {
             for (int fact = 0; fact < count; fact++) {
-                if (isLive(fact, tick) && daysWithin(fact, slot, day, day + 1) > 0) {
+                if (slots[fact] == slot && isLive(fact, tick)
+                        && daysWithin(fact, day, day + 1) > 0) {
                     return fact;
                 }
             }
@@ -621,8 +623,8 @@ public final class FactLedger {
         int countDays(int slot, int from, int to, int tick) {
             int days = 0;
             for (int fact = 0; fact < count; fact++) {
-                if (isLive(fact, tick)) {
-                    days += daysWithin(fact, slot, from, to);
+                if (slots[fact] == slot && isLive(fact, tick)) {
+                    days += daysWithin(fact, from, to);
                 }
             }
             return days;
@@ -695,10 +697,7 @@ public final class FactLedger {
                     && (cell(closings, fact) == NONE || cell(closings, fact) > tick);
         }
 
-        private int daysWithin(int fact, int slot, int from, int to) {
-            if (cell(slots, fact) != slot) {
-                return 0;
-            }
+        private int daysWithin(int fact, int from, int to) {
             int begin = Math.max(firstDay(fact), from);
             int end = Math.min(dayAfter(fact), to);
             return Math.max(end - begin, 0);
