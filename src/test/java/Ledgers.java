@@ -51,7 +51,8 @@ final class Ledgers {
      * in tick 2 the value 8 on 15 to 19, in tick 3 no value on 18 to 24, in tick 4 the value 9 for
      * the fact of day 12. The facts:
      * 0: 7 on 10-30, ticks 1 to 2; 1: 7 on 10-15, ticks 2 to 4; 2: 7 on 20-30, ticks 2 to 3;
-     * 3: 8 on 15-20, ticks 2 to 3; 4: 8 on 15-18 from 3; 5: 7 on 25-30 from 3; 6: 9 on 10-15 from 4.
+     * 3: 8 on 15-20, ticks 2 to 3; 4: 8 on 15-18 from 3; 5: 7 on 25-30 from 3; 6: 9 on 10-15
+     * from 4.
      */
     static Calls past() {
         return entities(2).then(ledger -> {

@@ -583,13 +583,6 @@ public final class PromiseTest {
         due("26 the last of them", LEAST + 1, () -> many.periodValue(0, 0, 51, 99));
         due("24 the last of them", 99, () -> many.periodFrom(0, 0, 51, 99));
         due("25 the last of them", 100, () -> many.periodTo(0, 0, 51, 99));
-        StringBuilder longest = new StringBuilder();
-        for (int day = 0; day < 100; day++) {
-            longest.append(day == 0 ? "" : " ").append(day).append('-').append(day + 1)
-                    .append('=').append(LEAST + day % 2);
-        }
-        due("40 the longest line", longest.length(), () -> many.writePeriods(0, 0, 51));
-        due("41 the longest line", longest, () -> lineOf(many, longest.length()));
     }
 
     private static void integral() {
