@@ -22,6 +22,7 @@ public final class BoundaryJoinsTest {
         versionValue();
         sixtyOneVersions();
         versionsFromTheHorizon();
+        oneAfterTheOther();
         ordersOfVersions();
         Boundary.end();
     }
@@ -377,6 +378,23 @@ public final class BoundaryJoinsTest {
                 ledger -> ledger.versionTick(0, 1, 10, 0));
         Boundary.answers("39 horizon and clock 60", 60, last,
                 ledger -> ledger.versionValue(0, 1, 10, 0));
+    }
+
+    /** What was asked before leaves nothing behind. */
+    private static void oneAfterTheOther() {
+        Boundary.answers("36 a second day, and the first again", "4 1 3 4", Ledgers.past(),
+                ledger -> ledger.versionCount(0, 1, 18) + " " + ledger.versionCount(0, 1, 30) + " "
+                        + ledger.versionCount(0, 1, 12) + " " + ledger.versionCount(0, 1, 18));
+        Boundary.answers("31 other attributes, and the first again", "6 0 3 6", sixJoins(),
+                ledger -> ledger.joinCount(0, 0, 1, 2, 6) + " " + ledger.joinCount(0, 0, 1, 1, 6)
+                        + " " + ledger.joinCount(0, 0, 0, 0, 6) + " "
+                        + ledger.joinCount(0, 0, 1, 2, 6));
+        Boundary.refuses("37 an index that another day had", Boundary.ELEMENT,
+                Ledgers.past().then(ledger -> ledger.versionCount(0, 1, 18)),
+                ledger -> ledger.versionTick(0, 1, 12, 3));
+        Boundary.refuses("32 an index that another pair had", Boundary.ELEMENT,
+                sixJoins().then(ledger -> ledger.joinCount(0, 0, 1, 2, 6)),
+                ledger -> ledger.joinFrom(0, 0, 0, 0, 6, 3));
     }
 
     private static void ordersOfVersions() {

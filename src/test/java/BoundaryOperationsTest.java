@@ -377,6 +377,8 @@ public final class BoundaryOperationsTest {
             Boundary.answers("9 the entity of tick " + tick, due[tick - 1], calls,
                     ledger -> ledger.entityOf(at));
         }
+        Boundary.answers("9 the last entity in the last tick", 5,
+                calls.then(ledger -> ledger.tell(5, 0, 1, 0, 1)), ledger -> ledger.entityOf(5));
         ticksOfOperations("9", (ledger, tick) -> ledger.entityOf(tick), 0);
     }
 

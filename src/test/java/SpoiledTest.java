@@ -22,7 +22,8 @@ public final class SpoiledTest {
 
     /**
      * One of two entities: fact 0 is 5 on the days 10 to 19, fact 1 is 5 on 20 to 29; of another
-     * attribute fact 2 is 6 on 20 to 29, and closed by fact 3.
+     * attribute fact 2 is 6 on 20 to 29, and closed by fact 3, which is 7. Fact 4 is of the first
+     * attribute of the first entity: 8 on day 0.
      */
     private static FactLedger ledger() {
         FactLedger ledger = new FactLedger();
@@ -32,6 +33,7 @@ public final class SpoiledTest {
         ledger.tell(1, 2, 5, 20, 30);
         ledger.tell(1, 1, 6, 20, 30);
         ledger.tell(1, 1, 7, 20, 30);
+        ledger.tell(0, 0, 8, 0, 1);
         return ledger;
     }
 
@@ -79,6 +81,8 @@ public final class SpoiledTest {
         due("the value of a closed fact", true, spoiled("facts", "values", 2, 9));
         due("the days of a closed fact", true, spoiled("facts", "tos", 2, 40));
         due("a closed fact that is open", false, spoiled("facts", "closings", 2, -1));
-        due("the last attribute of the last entity", false, spoiled("facts", "slots", 3, 5));
+        due("the first attribute of the first entity", false, spoiled("facts", "values", 4, 9));
+        due("its day 0", false, spoiled("facts", "froms", 4, 1));
+        due("a fact taken from another attribute", false, spoiled("facts", "slots", 3, 5));
     }
 }
